@@ -9,11 +9,13 @@ public final class ModelTest {
     private final PlaitBench bench = new PlaitBench();
     private final Model model = new Model();
     private final StringBuilder told = new StringBuilder();
+    private final int mainStraws;
     private int calls = 0;
     private boolean wrong = false;
 
     private ModelTest(long seed) {
         random = new Random(seed);
+        mainStraws = number(2, 7);
     }
 
     public static void main(String[] args) {
@@ -73,10 +75,16 @@ public final class ModelTest {
     }
 
     private void type() {
-        int straws = random.nextInt(3) > 0 ? 3 : number(2, 7);
+        int straws = random.nextInt(8) > 0 ? mainStraws : number(2, 7);
         StringBuilder text = new StringBuilder();
-        addItems(text, straws, 0, random.nextBoolean());
-        if (random.nextInt(3) == 0) {
+        boolean inTurn = random.nextInt(3) > 0;
+        if (inTurn) {
+            for (int i = 1; i < straws; i++) {
+                text.append(i).append(i % 2 == 1 ? '+' : '-');
+            }
+        }
+        addItems(text, straws, 0, inTurn);
+        if (random.nextInt(4) == 0) {
             spoil(text);
         }
         if (text.length() > 800) {
@@ -104,15 +112,15 @@ public final class ModelTest {
         for (int item = 0; item < items && text.length() < 600; item++) {
             addBlanks(text);
             int kind = random.nextInt(20);
-            if (kind < 13 || depth > 9) {
+            if (kind < (inTurn ? 17 : 13) || depth > 9) {
                 int i = number(1, straws - 1);
                 boolean over = inTurn ? i % 2 == 1 : random.nextBoolean();
                 text.append(i);
                 addBlanks(text);
                 text.append(over ? '+' : '-');
-            } else if (kind < 15) {
-                text.append('p').append(random.nextInt(12) == 0 ? "0" : "").append(number(0, 7));
-            } else if (kind < 17) {
+            } else if (kind < (inTurn ? 18 : 15)) {
+                text.append('p').append(random.nextInt(12) == 0 ? "0" : "").append(patternOf(straws));
+            } else if (inTurn || kind < 17) {
                 text.append(random.nextInt(8) == 0 ? number(0, 51) : number(1, 5));
                 addBracket(text, straws, depth, inTurn);
             } else {
@@ -120,6 +128,22 @@ public final class ModelTest {
                 addBracket(text, straws, depth, inTurn);
             }
         }
+    }
+
+    private int knownPattern() {
+        int k = number(0, 7);
+        for (int time = 0; time < 20 && model.size(k) < 0; time++) {
+            k = number(0, 7);
+        }
+        return k;
+    }
+
+    private int patternOf(int straws) {
+        int k = knownPattern();
+        for (int time = 0; time < 10 && model.size(k) >= 0 && model.about(k, 0) != straws; time++) {
+            k = knownPattern();
+        }
+        return random.nextInt(20) == 0 ? number(0, 9) : k;
     }
 
     private void addBracket(StringBuilder text, int straws, int depth, boolean inTurn) {
@@ -153,15 +177,18 @@ public final class ModelTest {
     }
 
     private void askPattern() {
-        int k = random.nextInt(30) == 0 ? number(-2, 9) : number(0, 7);
-        int j = number(-1, 12);
-        int a = number(0, 8);
-        int b = number(0, 8);
+        int k = random.nextInt(20) == 0 ? number(-2, 9) : knownPattern();
+        int j = random.nextInt(10) == 0 ? number(-1, 300) : number(0, 8);
+        int a = random.nextInt(10) == 0 ? number(-1, 8) : number(0, mainStraws);
+        int b = random.nextInt(10) == 0 ? number(-1, 8) : number(0, mainStraws);
+        int l = random.nextInt(20) == 0 ? number(-2, 9) : knownPattern();
+        int what = random.nextInt(20) == 0 ? number(-1, 8) : number(0, 6);
         switch (random.nextInt(9)) {
             case 0 -> both("crossing(" + k + ", " + j + ")", () -> bench.crossing(k, j), () -> model.crossing(k, j));
-            case 1, 2 -> both("about(" + k + ", " + a + ")", () -> bench.about(k, a), () -> model.about(k, a));
+            case 1, 2 -> both("about(" + k + ", " + what + ")",
+                    () -> bench.about(k, what), () -> model.about(k, what));
             case 3 -> both("factor(" + k + ", " + j + ")", () -> bench.factor(k, j), () -> model.factor(k, j));
-            case 4 -> both("alike(" + k + ", " + b + ")", () -> bench.alike(k, b) ? 1 : 0, () -> model.alike(k, b));
+            case 4 -> both("alike(" + k + ", " + l + ")", () -> bench.alike(k, l) ? 1 : 0, () -> model.alike(k, l));
             case 5 -> both("untwined(" + k + ")", () -> bench.untwined(k), () -> model.untwined(k));
             case 6 -> both("goes(" + k + ", " + a + ")", () -> bench.goes(k, a), () -> model.goes(k, a));
             case 7 -> both("twine(" + k + ", " + a + ", " + b + ")",
@@ -171,22 +198,28 @@ public final class ModelTest {
     }
 
     private void callStock() {
-        int width = random.nextInt(4) > 0 ? number(1, 3) : number(0, 10);
-        int what = number(-1, 5);
-        int some = number(-1, 10);
-        switch (random.nextInt(9)) {
+        int width = random.nextInt(8) > 0 ? number(1, 2) : number(0, 10);
+        int what = random.nextInt(8) > 0 ? number(0, 3) : number(-1, 5);
+        int bundle = someOf(model.count(0));
+        int score = someOf(model.count(1));
+        int hat = someOf(model.count(2));
+        switch (random.nextInt(10)) {
             case 0 -> bundle(number(-1, 32), width, random.nextBoolean() ? number(0, 60) : number(0, 5001));
-            case 1, 2, 3 -> score(number(0, 7), random.nextBoolean() ? number(0, 10) : number(0, 201), width);
-            case 4, 5 -> hat(width, random.nextBoolean() ? width * number(1, 6) : number(0, 401));
-            case 6 -> both("scored(" + some + ", " + what + ")",
-                    () -> bench.scored(some, what), () -> model.scored(some, what));
-            case 7 -> both("sewn(" + some + ", " + what + ")",
-                    () -> bench.sewn(some, what), () -> model.sewn(some, what));
-            default -> {
-                both("count(" + what + ")", () -> bench.count(what), () -> model.count(what));
-                both("left(" + some + ")", () -> bench.left(some), () -> model.left(some));
-            }
+            case 1, 2 -> score(knownPattern(), random.nextBoolean() ? number(0, 10) : number(0, 201), width);
+            case 3, 4 -> hat(width, random.nextBoolean() ? width * number(1, 6) : number(0, 401));
+            case 5, 6 -> both("scored(" + score + ", " + what + ")",
+                    () -> bench.scored(score, what), () -> model.scored(score, what));
+            case 7 -> both("sewn(" + hat + ", " + what + ")",
+                    () -> bench.sewn(hat, what), () -> model.sewn(hat, what));
+            case 8 -> both("count(" + what + ")", () -> bench.count(what), () -> model.count(what));
+            default -> both("left(" + bundle + ")", () -> bench.left(bundle), () -> model.left(bundle));
         }
+        both("count(4)", () -> bench.count(4), () -> model.count(4));
+    }
+
+    /** A number from 0 on, now and then one that is just outside. */
+    private int someOf(int count) {
+        return random.nextInt(10) > 0 && count > 0 ? random.nextInt(count) : number(-1, count);
     }
 
     private void bundle(int field, int width, int straws) {
