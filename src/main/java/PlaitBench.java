@@ -727,6 +727,10 @@ public final class PlaitBench {
                 return untwining;
             }
             untwining = NONE;
+            // D an even number of times brings each straw home, so HOME is the least that can do.
+            if (home * length > MOST_CROSSINGS_UNTWINING) {
+                return untwining;
+            }
             workForm.clear(straws);
             for (int made = 1; made <= MOST_UNTWINING && made * length <= MOST_CROSSINGS_UNTWINING; made++) {
                 workForm.make(row, length);

@@ -35,6 +35,7 @@ public final class PromiseTest {
         promise16Limits();
         promise17();
         promise18();
+        promise18ByOne();
         promise18Limits();
         promise19();
         promise20();
@@ -742,6 +743,19 @@ public final class PromiseTest {
         Check.same("18: nothing left", NONE, x.hat(2, 2));
     }
 
+    private static void promise18ByOne() {
+        PlaitBench x = benchWithPlait();
+        Check.pattern(x, 2, 2, "1+");
+        x.bundle(3, 2, 100);
+        // A turn of width 2 is 7 long: it is 1 more than 6, and takes 1 of the next score.
+        x.score(2, 3, 2);
+        Check.same("18: one too little", NONE, x.hat(2, 2));
+        x.score(2, 1, 2);
+        Check.same("18: one of the next", 0, x.hat(2, 2));
+        Check.same("18: one is left", 1, x.scored(1, 1));
+        Check.same("19: both scores", 3, x.sewn(0, 3));
+    }
+
     private static void promise18Limits() {
         PlaitBench x = benchWithPlait();
         x.bundle(1, 1, 5000);
@@ -781,6 +795,7 @@ public final class PromiseTest {
             y.score(0, 200, 1);
         }
         Check.same("16: of a full row", 120000, y.scored(4, 0));
+        Check.same("18: radius 401, though there is enough", NONE, y.hat(1, 401));
         Check.same("18: radius 400", 0, y.hat(1, 400));
         long due = 0;
         for (long turn = 1; turn <= 400; turn++) {
