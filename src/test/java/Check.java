@@ -6,15 +6,29 @@ final class Check {
 
     private static int checked = 0;
     private static int wrong = 0;
+    private static String under = "";
 
     private Check() {
     }
 
+    /** What stands ahead of each message from now on. */
+    static void under(String heading) {
+        under = heading;
+    }
+
+    static int checked() {
+        return checked;
+    }
+
     static void same(String what, long due, long got) {
+        same(what, Long.toString(due), Long.toString(got));
+    }
+
+    static void same(String what, String due, String got) {
         checked++;
-        if (due != got) {
+        if (!due.equals(got)) {
             wrong++;
-            System.out.println(what + " answered " + got + ", due is " + due);
+            System.out.println(under + what + " answered " + got + ", due is " + due);
         }
     }
 
@@ -31,12 +45,7 @@ final class Check {
     }
 
     private static void thrown(String what, String due, Call call) {
-        checked++;
-        String got = outcome(call);
-        if (!got.equals(due)) {
-            wrong++;
-            System.out.println(what + " answered " + got + ", due is " + due);
-        }
+        same(what, due, outcome(call));
     }
 
     /** The answer as a text, or the plain name of what was thrown. */
